@@ -83,8 +83,8 @@ public final class DrownedSlates {
   // A text is read into these, so that a FAULT leaves what stands untouched.
   private Waters nextWaters = new Waters();
   private Chalk nextChalk = new Chalk();
-  private final Chalk kept = new Chalk();
-  private boolean isKept = false;
+  private final Chalk imaged = new Chalk();
+  private boolean hasImage = false;
   private final Lines lines = new Lines(tape);
   private final Ship ship = new Ship();
   private final Fog fog = new Fog();
@@ -137,7 +137,7 @@ public final class DrownedSlates {
     nextWaters = oldWaters;
     nextChalk = oldChalk;
     faultPlace = NONE;
-    isKept = false;
+    hasImage = false;
     desk.forget();
   }
 
@@ -369,15 +369,15 @@ public final class DrownedSlates {
   }
 
   public void image() {
-    kept.copyFrom(chalk);
-    isKept = true;
+    imaged.copyFrom(chalk);
+    hasImage = true;
   }
 
   public boolean restore() {
-    if (isKept) {
-      chalk.copyFrom(kept);
+    if (hasImage) {
+      chalk.copyFrom(imaged);
     }
-    return isKept;
+    return hasImage;
   }
 
   private void needSlate(int slate) {
@@ -1053,7 +1053,7 @@ public final class DrownedSlates {
       put(waters, -1 - wordOrSign);
     }
 
-    boolean readExpr(Waters waters, int within) {
+    private boolean readExpr(Waters waters, int within) {
       if (within >= MOST_EXPRS) {
         boolean begins = tokens.kind == NUMBER || tokens.kind == WORD || tokens.isSign('(');
         return refuse(begins ? TOO_MUCH : CANNOT_STAND);

@@ -178,6 +178,9 @@ public final class FaultsTest {
     fault(3, "slate 0 0 0;pilot 0 0 0 |9999;");
     fault(3, "pilot 0 0 0 |0;slate 0 0 0;");
     fault(4, "slate 0 0 0;slate 0 0 0;pilot 0 0 0 1 0 |1;");
+    fine(times("slate 0 0 0;", 8) + "pilot 0 0 0 7 6 5 4 3 2 1 0;");
+    fault(4, times("slate 0 0 0;", 8) + "pilot 0 0 0 7 6 5 4 3 2 1 0 |7;");
+    fault(3, times("slate 0 0 0;", 8) + "pilot 0 0 0 7 6 5 4 3 2 1 0 |8;");
     fine("slate 0 0 0;slate 0 0 0;pilot 0 0 0 1 0;pilot 0 0 0 01 000;");
     fault(4, "rock 2 3;rock 2 |3;");
     fine("rock 2 3;rock 3 2;current 2 3 east;");
@@ -202,6 +205,11 @@ public final class FaultsTest {
     fault(3, "rule |and go east;");
     fault(3, "rule |sea go east;");
     fault(3, "rule |depth go east;");
+    fault(3, "rule |xz go east;");
+    fault(3, "rule |xa go east;");
+    fault(1, "rule x|{ go east;");
+    fault(1, "rule x|` go east;");
+    fault(1, "rule 1|: go east;");
     fault(3, "rule 1 + |not 1 go east;");
     fault(3, "rule 1 < |not 1 go east;");
     fault(3, "rule 1 or |or 1 go east;");

@@ -331,6 +331,39 @@ public final class PromisesTest {
       due("undo", i, x::undo);
     }
     due("an act that is not kept stays done", 4, () -> x.slate(0, 2));
+    undoMany();
+  }
+
+  /** 64 acts of different slates: each of the latest 30 is undone as it was done. */
+  private static void undoMany() {
+    DrownedSlates x = of("slate 0 0 0;slate 0 0 0;slate 0 0 0;slate 0 0 0;slate 0 0 0;");
+    String[] states = new String[65];
+    states[0] = marksOf(x);
+    for (int i = 0; i < 64; i++) {
+      if (i % 3 == 0) {
+        x.rub(i % 5, i, 60);
+      } else if (x.write(i * i % 5, i % 4, 1 + i % 9) < 0) {
+        x.rub((i + 1) % 5, i, 30);
+      }
+      states[i + 1] = marksOf(x);
+    }
+    for (int i = 63; i >= 34; i--) {
+      int left = i - 34;
+      due("undo of many", left, x::undo);
+      due("state behind " + i, states[i], () -> marksOf(x));
+    }
+    due("no more", -1, x::undo);
+  }
+
+  private static String marksOf(DrownedSlates x) {
+    StringBuilder all = new StringBuilder();
+    for (int s = 0; s < x.count(4); s++) {
+      all.append(x.slate(s, 3)).append(':');
+      for (int i = 0; i < x.slate(s, 2); i++) {
+        all.append(x.mark(s, i, 0)).append(x.mark(s, i, 1)).append(',');
+      }
+    }
+    return all.toString();
   }
 
   private static String voyageOf(DrownedSlates x, int slate) {
@@ -422,6 +455,13 @@ public final class PromisesTest {
     due("undone", 0, () -> {
       y.undo();
       return y.where(1, 1);
+    });
+    // against the current he makes a cell in two hours: 9 STEPS bring him to 4, not to 5
+    DrownedSlates w = of("sea 8 2;current 1 0 west;current 2 0 west;current 3 0 west;current 4 0 west;"
+        + "current 5 0 west;current 6 0 west;current 7 0 west;slate 0 0 0 north 1;");
+    due("1 to 9 steps", 0b1_0001_1111, () -> {
+      w.rub(0, 1, 100);
+      return w.where(0, 1);
     });
     DrownedSlates z = of("sea 8 8;slate 7 7 0 east 1 north 1;");
     due("the highest cell", Long.MIN_VALUE, () -> z.where(0, 0));
@@ -557,6 +597,12 @@ public final class PromisesTest {
     }
     DrownedSlates x = of("pilot 0 3 7;goal 7;rule 0 go east;rule 0 - 1 go north;rule 1 go west;");
     due("the first that holds", "3 0 10", () -> sailsOf(x, 0, 0));
+    String waiting = "0 or 1 and 1 < 1 + 2 * (".repeat(5);
+    holds("pilot 0 3 7;", waiting + "3" + ")".repeat(5), 1);
+    holds("pilot 0 3 7;", waiting + "0" + ")".repeat(5), 0);
+    holds("pilot 0 3 7;", "1" + "+1".repeat(310) + "=311", 1);
+    holds("pilot 0 3 7;", "1" + "-1".repeat(310) + "=1", 0);
+    holds("pilot 0 3 7;", "1" + "*1".repeat(310) + "=1", 1);
   }
 
   private static void exam() {
@@ -608,6 +654,15 @@ public final class PromisesTest {
         of("sea 8 4;rock 1 3;rock 7 0;rock 3 2;goal 6;school 0 0 0;slate 3 0 1 south 1;slate 0 0 1 east 3;"
             + "slate 3 1 0 east 1 south 1 north 1;slate 4 1 1 south 1 west 1;pilot 0 2 1;"
             + "rule east go north;rule 1 go east;"), 0));
+    due("a slate that teaches nothing, ahead of the first one", "2 1 0", () -> studyOf(
+        of("sea 6 2;rock 2 0;slate 3 0 1 west 1;slate 0 0 1 south 1 east 3 north 1;school 0 0 0;pilot 0 0 0;"
+            + "rule east go south;rule 1 go east;"), 0));
+    String twoRocks = "sea 8 3;rock 3 0;rock 4 1;goal 7;pilot 0 0 0;rule east go south;rule 1 go east;";
+    due("both from the school, none from the other's end", "2 0 1", () -> studyOf(
+        of(twoRocks + "school 0 0 0;slate 0 0 1 east 9;slate 0 0 1 south 1 east 9;"), 0));
+    due("1 2 is ahead of 2 0", "2 1 2", () -> studyOf(of(twoRocks
+        + "school 0 0 1;slate 4 0 1 west 1;slate 0 0 1 east 9;slate 0 0 1 south 1 east 9;"), 0));
+    due("no rock is known at first", 0, () -> of("sea 6 2;pilot 1 0 0;rule west go north;rule 1 go east;").study(0));
     due("what is kept stays where none is found", "1 0 -1 0", () -> {
       DrownedSlates y = of("sea 6 2;rock 2 0;slate 0 0 1 east 2;pilot 0 0 0;pilot 0 1 0;"
           + "rule y = 1 and hour = 0 go south;rule east go south;rule 1 go east;");

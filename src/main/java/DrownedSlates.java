@@ -1225,24 +1225,26 @@ public final class DrownedSlates {
     }
 
     void followMark(Waters waters, int way, int steps, boolean tides) {
-      for (step = 0; step < steps; step++) {
+      for (int i = 0; i < steps && end == AFLOAT; i++) {
+        step = i;
         sail(waters, way, tides);
-        if (end != AFLOAT) {
-          return;
-        }
       }
-      step = 0;
+      if (end == AFLOAT) {
+        step = 0;
+      }
     }
 
     void follow(Waters waters, Chalk chalk, int slate) {
       begin(chalk.cell[slate], chalk.hour[slate]);
-      for (mark = 0; mark < chalk.marks[slate]; mark++) {
+      int marks = chalk.marks[slate];
+      for (int i = 0; i < marks && end == AFLOAT; i++) {
+        mark = i;
         markCell = cell;
         markHour = hour;
-        followMark(waters, chalk.wayOf(slate, mark), chalk.stepsOf(slate, mark), true);
-        if (end != AFLOAT) {
-          return;
-        }
+        followMark(waters, chalk.wayOf(slate, i), chalk.stepsOf(slate, i), true);
+      }
+      if (end == AFLOAT) {
+        mark = marks;
       }
     }
 

@@ -85,6 +85,20 @@ public final class CallsBoundsTest {
         .due("sea 9 -> 0", "count * -> 6 6 1 0 0 0 0 0 0 2 5 0 0 1 1", "fault -> -1", "cell 2 0 -> 0", "cell 7 0 -> 1",
             "cell 9 1 -> -1", "slate 0 0 -> NSEE", "pilot 0 0 -> NSEE", "studied 0 -> NSEE", "restore -> false",
             "undo -> -1", "exam -> 0");
+    String[] without = {"count * -> 6 6 0 0 0 0 0 0 0 2 5 0", "cell 2 0 -> 0", "cell 9 1 -> -1", "slate 0 0 -> NSEE",
+        "undo -> -1", "chart 2 -> 68719476735"};
+    String[] anew = {"load slate 1 0 0;pilot 1 0 0;rule x - 1 go north;rule 0 go east; -> 0", "slate 0 * -> 1 0 0 0",
+        "count 11 -> 0", "pilot 0 2 -> 0", "sails 0 0 * -> 0 1 60", "cell 9 1 -> -1", "voyage 0 * -> 0 1 0 0 0"};
+    for (int texts = 1; texts <= 3; texts++) {
+      Script.of("promise 3: nothing is left of " + texts + " texts", "").times(texts, "load " + SEA + " -> 0")
+          .due("write 0 1 1 -> 2", "rub 0 0 100 -> 2", "rub 1 0 100 -> 1", "sea 0 -> 0").due(without).due(anew)
+          .due("sea 0 -> 0").due(without);
+      Script.of("promise 3: nothing is left of " + texts + " texts with a FAULT", "")
+          .times(texts, "load " + SEA + "rule -> 1").due("sea 0 -> 0").due(without).due(anew);
+    }
+    String longRule = "goal 7;pilot 0 0 0;rule " + "1+".repeat(320) + "1 = 321 go north; -> 0";
+    Script.of("promise 3: RULES of many texts", "").due("load " + longRule, "sails 0 0 * -> 3 0 0", "load " + longRule,
+        "sails 0 0 * -> 3 0 0", "load " + longRule, "sails 0 0 * -> 3 0 0", "load " + longRule, "sails 0 0 * -> 3 0 0");
     Script.of("promise 3: the same text once more is all anew", SEA).due("write 0 1 1 -> 2", "rub 0 0 100 -> 2",
         "load " + SEA + " -> 0", "slate 0 * -> 0 1 1 0", "count 11 -> 0", "undo -> -1");
   }

@@ -65,12 +65,16 @@ public final class HandsBoundsTest {
     Script.of("no MARK in either", "slate 0 0 0;slate 0 0 0;").due("copied 0 1 * -> 0 -1 -1");
     Script.of("no MARK in one", "slate 0 0 0 east 1;slate 0 0 0;").due("copied 0 1 * -> 0 -1 -1", "copied 1 0 * -> 0 -1 -1");
     Script.of("one MARK", "slate 0 0 0 east 1;slate 5 5 9 east 1;").due("copied 0 1 * -> 1 0 0");
+    Script.of("none, asked behind others", "slate 0 0 0 east 1;slate 0 0 0 east 1;slate 0 0 0 east 2;")
+        .due("copied 0 1 * -> 1 0 0", "copied 0 2 * -> 0 -1 -1", "copied 2 1 * -> 0 -1 -1");
     Script.of("the way alone is not enough", "slate 0 0 0 east 1;slate 0 0 0 east 2;").due("copied 0 1 * -> 0 -1 -1");
     Script.of("STEPS alone are not enough", "slate 0 0 0 east 1;slate 0 0 0 west 1;").due("copied 0 1 * -> 0 -1 -1");
     String all = " east 1 west 2 east 3 west 4 east 5 west 6 east 7 west 8;";
     Script.of("all 8 MARKS", "slate 0 0 0" + all + "slate 0 0 0" + all).due("copied 0 1 * -> 8 0 0", "copied 1 0 * -> 8 0 0");
     Script.of("the last MARK of the first, the first of the second", "slate 0 0 0" + all + "slate 0 0 0 west 8"
         + " north 1".repeat(7) + ";").due("copied 0 1 * -> 1 7 0", "copied 1 0 * -> 1 0 7");
+    Script.of("a MARK that was UNDONE is none of them", "slate 0 0 0 north 9 east 1;slate 0 0 0 east 1 west 2;")
+        .due("write 0 3 2 -> 3", "copied 0 1 * -> 2 1 0", "undo -> 0", "copied 0 1 * -> 1 1 0", "copied 1 0 * -> 1 0 1");
     Script.of("side by side in both", "slate 0 0 0 east 1 west 2 east 3;slate 0 0 0 east 1 east 3;")
         .due("copied 0 1 * -> 1 0 0", "copied 1 0 * -> 1 0 0");
     Script.of("RUBBED MARKS count", "slate 0 0 0 east 1;slate 0 0 0 east 1;").due("rub 0 0 100 -> 1", "copied 0 1 * -> 1 0 0");
@@ -139,6 +143,23 @@ public final class HandsBoundsTest {
       thirty.due("undo -> " + left);
     }
     thirty.due("slate 0 2 -> 0", "undo -> -1", "restore -> true", "count 11 -> 30", "slate 0 2 -> 1");
+    Script all = Script.of("all MARKS of all SLATES", ("slate0 0 0" + "east1".repeat(7) + ";").repeat(8));
+    int[] rubbed = {0, 1, 9, 41, 41, 233, 233, 235};
+    for (int slate = 0; slate < 8; slate++) {
+      all.due("write " + slate + " " + slate % 4 + " " + (slate + 2) + " -> 8",
+          "rub " + slate + " 0 " + 10 * slate + " -> " + Integer.bitCount(rubbed[slate]));
+    }
+    all.due("image -> done");
+    for (int left = 15; left >= 0; left--) {
+      all.due("undo -> " + left);
+    }
+    for (int slate = 0; slate < 8; slate++) {
+      all.due("write " + slate + " " + (slate + 1) % 4 + " 1 -> 8");
+    }
+    all.due("restore -> true", "count 11 -> 16");
+    for (int slate = 0; slate < 8; slate++) {
+      all.due("mark " + slate + " 7 * -> " + slate % 4 + " " + (slate + 2), "slate " + slate + " 3 -> " + rubbed[slate]);
+    }
     Script.of("ACTS that were UNDONE are there again", text)
         .due("write 0 1 1 -> 1", "rub 1 0 100 -> 8", "image -> done", "undo -> 1", "undo -> 0", "write 0 3 3 -> 1",
             "restore -> true", "count 11 -> 2", "slate 1 3 -> 255", "mark 0 0 * -> 1 1", "undo -> 1", "slate 1 3 -> 0",

@@ -176,6 +176,24 @@ public final class PilotsBoundsTest {
         .due("study 0 -> -1", "studied 0 -> NSEE");
     Script.of("of as few the first as a row", ONE_ROCK + "slate 7 7 1;slate 1 0 1 east 1;slate 1 0 1 east 1;")
         .due("study 0 -> 1", "studied 0 -> 1", "studied 1 -> NSEE");
+    Script.of("another SLATE of the same ROCK, too far", ONE_ROCK + "slate 2 7 1 north 7;slate 1 0 1 east 1;")
+        .due("study 0 -> 1", "studied 0 -> 1");
+    Script.of("another SLATE of the same ROCK, too far, and one of none", ONE_ROCK
+        + "slate 7 7 1;slate 2 7 1 north 7;slate 1 0 1 east 1;").due("study 0 -> 1", "studied 0 -> 2");
+    Script.of("another SLATE of the same ROCK, too far, and one of another ROCK", ONE_ROCK
+        + "rock 0 7;slate 2 7 1 north 7;slate 0 1 1 south 6;slate 1 0 1 east 1;").due("study 0 -> 1", "studied 0 -> 2");
+    Script.of("the ROCK is CELL 0", "rock 0 0;slate 1 0 1 west 1;pilot 0 1 1;rule north and x = 0 go east;"
+        + "rule y go north;rule 1 go east;").due("sails 0 0 * -> 1 0 1", "study 0 -> 1", "studied 0 -> 0");
+    Script.of("the ROCK is CELL 63", "sea 8 8;rock 7 7;goal 7;school 6 6 0;slate 6 6 1 south 1 east 1;pilot 6 7 1;"
+        + "rule east go north;rule 1 go east;").due("sails 0 0 * -> 1 63 1", "study 0 -> 1", "studied 0 -> 0");
+    String twoRocks = "sea 8 3;rock 3 0;rock 4 1;goal 7;pilot 0 0 0;rule east go south;rule 1 go east;school 0 0 ";
+    Script.of("1 2 is ahead of 2 0, as a row", twoRocks + "1;slate 4 0 1 west 1;slate 0 0 1 east 9;slate 0 0 1 south 1 east 9;")
+        .due("study 0 -> 2", "studied * -> 1 2");
+    Script.of("0 2 is ahead of 1 2, as a row", twoRocks + "1;slate 0 0 1 east 9;slate 0 0 1 east 9;slate 0 0 1 south 1 east 9;")
+        .due("study 0 -> 2", "studied * -> 0 2");
+    Script.of("2 1 3 is ahead of 2 3 0, as a row", twoRocks + "0;slate 4 2 1 north 1;slate 7 2 1 west 3 north 1;"
+        + "slate 0 0 1 south 2 east 7;slate 7 2 1 north 2 west 4;")
+        .due("voyage 0 * -> 1 12 0 0 1", "voyage 1 * -> 1 12 1 0 4", "voyage 3 * -> 1 3 1 3 6", "study 0 -> 3", "studied * -> 2 1 3");
     Script.of("the fewest, though longer rows are ahead", "sea 8 8;rock 2 0;goal 7;pilot 0 0 0;rule east go south;"
         + "rule 1 go east;slate 0 0 1;slate 0 0 1;slate 1 0 1 east 1;").due("study 0 -> 1", "studied 0 -> 2");
   }
@@ -194,6 +212,7 @@ public final class PilotsBoundsTest {
   private static void whatIsKept() {
     String sea = "rock 2 0;slate 0 0 1 east 2;pilot 0 0 0;pilot 0 5 0;pilot 5 5 0;rule y = 5 go south;rule east go south;"
         + "rule 1 go east;";
+    new Script("none is kept in a new object").due("studied 0 -> NSEE");
     Script.of("none is kept at first", sea).due("studied 0 -> NSEE");
     Script.of("where none is found, what is kept stays", sea)
         .due("study 0 -> 1", "studied 0 -> 0", "study 1 -> -1", "studied 0 -> 0", "studied 1 -> NSEE");

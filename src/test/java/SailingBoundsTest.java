@@ -77,6 +77,8 @@ public final class SailingBoundsTest {
   private static void marksAndSteps() {
     Script.of("AFLOAT: how many MARKS there are, STEP 0, the HOUR behind all", "slate 2 2 99;slate 0 0 99"
         + " east 1 west 1".repeat(4) + ";").due("voyage 0 * -> 0 14 0 0 99", "voyage 1 * -> 0 0 8 0 107");
+    Script.of("no MARK, asked behind another VOYAGE", "slate 0 0 5 east 9;slate 1 1 1;")
+        .due("voyage 0 * -> 3 5 0 5 10", "voyage 1 * -> 0 7 0 0 1");
     Script.of("the first MARK, the first STEP", "slate 0 0 5 west 9;").due("voyage 0 * -> 3 0 0 0 5");
     Script.of("the 8th MARK", "slate 0 0 1" + " east 1 west 1".repeat(3) + " east 1 west 2;")
         .due("voyage 0 * -> 3 0 7 1 9");
@@ -128,6 +130,21 @@ public final class SailingBoundsTest {
       latest.due("slate 1 3 -> 1", "undo -> " + left);
     }
     latest.due("slate 1 3 -> 0", "slate 0 2 -> 1", "undo -> -1", "slate 0 2 -> 1");
+    Script each = Script.of("31 ACTS, each another one", "slate 0 0 0;slate 0 0 0;slate 0 0 0;slate 0 0 0;slate 0 0 0;");
+    for (int i = 0; i < 31; i++) {
+      each.due("write " + i * 3 % 5 + " " + i % 4 + " " + (1 + i % 9) + " -> " + (1 + i / 5));
+    }
+    for (int i = 30; i >= 1; i--) {
+      each.due("mark " + i * 3 % 5 + " " + i / 5 + " * -> " + i % 4 + " " + (1 + i % 9), "undo -> " + (i - 1),
+          "slate " + i * 3 % 5 + " 2 -> " + i / 5);
+    }
+    each.due("undo -> -1", "slate 0 2 -> 1", "mark 0 0 * -> 0 1", "slate 3 2 -> 0");
+    Script.of("31 ACTS, the 30th a MARK that is written", text).times(29, "rub 1 0 100 -> 1")
+        .due("write 0 1 1 -> 1", "rub 1 0 100 -> 1", "undo -> 29", "slate 0 2 -> 1", "undo -> 28", "slate 0 2 -> 0",
+            "slate 1 3 -> 1");
+    Script.of("31 ACTS, the 30th one that is RUBBED", text).times(29, "rub 1 0 0 -> 0")
+        .due("rub 1 0 100 -> 1", "write 0 1 1 -> 1", "undo -> 29", "slate 1 3 -> 1", "undo -> 28", "slate 1 3 -> 0",
+            "slate 0 2 -> 0");
     Script.of("ACTS that are not kept leave room for others", text).times(100, "rub 1 0 0 -> 0")
         .due("count 11 -> 30", "undo -> 29", "write 0 1 1 -> 1", "count 11 -> 30", "undo -> 29", "slate 0 2 -> 0");
   }
@@ -244,6 +261,11 @@ public final class SailingBoundsTest {
   private static void whereByRubbedMarks() {
     Script.of("any way, 1 STEP at least", "sea 8 8;slate 0 0 1 west 9;")
         .due("rub 0 0 100 -> 1", "where 0 0 -> 1", "where 0 1 -> 72340172838076926");
+    Script.of("any way, from the last CELL", "sea 8 8;slate 7 7 1 east 9;")
+        .due("rub 0 0 100 -> 1", "where 0 1 -> 9187484529235886208");
+    Script.of("any way, from the middle", "sea 3 3;slate 1 1 1 east 9;").due("rub 0 0 100 -> 1", "where 0 1 -> 170");
+    Script.of("driven each way", "sea 3 3;current 1 0 north;current 0 1 north;current 1 2 east;current 2 1 south;slate 1 1 0 east 1;")
+        .due("rub 0 0 100 -> 1", "where 0 1 -> 259");
     StringBuilder tides = new StringBuilder("sea 8 2;");
     for (int cell = 1; cell < 8; cell++) {
       tides.append("current ").append(cell).append(" 0 west;");

@@ -57,6 +57,20 @@ public final class TermsBoundsTest {
     Script.of("north is y less, south more, west x less, east more",
         "sea 3 3;slate 1 1 1 north 1;slate 1 1 1 east 1;slate 1 1 1 south 1;slate 1 1 1 west 1;")
         .due("voyage 0 1 -> 1", "voyage 1 1 -> 5", "voyage 2 1 -> 7", "voyage 3 1 -> 3");
+    Script.of("north and south in a SEA of more columns than rows", "sea 7 3;slate 1 1 1 north 1;slate 1 1 1 south 1;"
+        + "current 5 1 north;current 6 1 south;slate 4 1 0 east 1;slate 5 1 1 east 1;slate 5 1 0 east 1;")
+        .due("voyage 0 1 -> 1", "voyage 1 1 -> 15", "voyage 2 1 -> 5", "voyage 3 1 -> 13", "voyage 4 1 -> 20",
+            "where 0 1 -> 2", "where 1 1 -> 32768", "where 2 1 -> 32", "where 3 1 -> 8192", "where 4 1 -> 1048576");
+    Script.of("north and south in a SEA of more rows than columns", "sea 3 7;slate 1 1 1 north 1;slate 1 1 1 south 1;"
+        + "current 1 5 north;current 2 5 south;slate 0 5 0 east 1;slate 1 5 0 east 1;")
+        .due("voyage 0 1 -> 1", "voyage 1 1 -> 7", "voyage 2 1 -> 13", "voyage 3 1 -> 20", "where 0 1 -> 2", "where 1 1 -> 128",
+            "where 2 1 -> 8192", "where 3 1 -> 1048576");
+    Script.of("x and y of a PILOT, more columns than rows", "sea 7 3;goal 7;pilot 5 2 1;rule hour = 1 and x = 5 and y = 2 go south;")
+        .due("sails 0 0 * -> 3 19 1");
+    Script.of("x and y of a PILOT, more rows than columns", "sea 3 7;goal 7;pilot 2 5 1;rule hour = 1 and x = 2 and y = 5 go east;")
+        .due("sails 0 0 * -> 3 17 1");
+    Script.of("how far it is, more columns than rows", "sea 7 3;rock 6 2;slate 5 2 1 east 1;").due("dive 1 * -> 12 1", "dive 2 * -> 4 1");
+    Script.of("how far it is, more rows than columns", "sea 3 7;rock 2 6;slate 1 6 1 east 1;").due("dive 1 * -> 16 1", "dive 2 * -> 12 1");
     Script.fault("a ROCK's X", 2, "sea 3 2;rock |3 0;");
     Script.fault("a ROCK's Y", 2, "sea 3 2;rock 2 |2;");
     Script.fault("a CURRENT's X", 2, "sea 3 2;current |3 0 east;");
@@ -130,7 +144,12 @@ public final class TermsBoundsTest {
     Script.fault("10 STEPS of the 8th MARK", 2, "slate 0 0 0" + " north 1".repeat(7) + " west |10;");
     Script.of("the four ways", "slate 0 0 0 north 1 east 1 south 1 west 1;")
         .due("mark 0 0 0 -> 0", "mark 0 1 0 -> 1", "mark 0 2 0 -> 2", "mark 0 3 0 -> 3");
-    Script.fault("a fifth way", 1, "slate 0 0 0 |up 1;");
+    String[] others = {"up", "x", "y", "hour", "tide", "go", "not", "northeast", "n"};
+    for (String other : others) {
+      Script.fault("a fifth way", 1, "slate 0 0 0 |" + other + " 1;");
+      Script.fault("a fifth way", 1, "current 0 0 |" + other + ";");
+      Script.fault("a fifth way", 1, "rule 1 go |" + other + ";");
+    }
   }
 
   private static void hands() {
@@ -195,6 +214,7 @@ public final class TermsBoundsTest {
     Script.of("no RULE", "pilot 0 0 0;").due("count 7 -> 0", "sails 0 0 * -> 0 0 60");
     Script.of("8 RULES, the last holds", "pilot 0 0 0;" + "rule 0 go east;".repeat(7) + "rule 1 go north;")
         .due("count 7 -> 8", "sails 0 0 * -> 3 0 0");
+    Script.of("8 RULES, none holds", "pilot 0 0 0;" + "rule 0 go north;".repeat(8)).due("sails 0 0 * -> 0 0 60");
     Script.fault("the 9th RULE", 2, "rule 0 go east;".repeat(8) + "|rule 0 go east;");
     Script.fault("the 9th RULE, cut off", 2, "rule 0 go east;".repeat(8) + "|rule");
   }

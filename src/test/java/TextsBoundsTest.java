@@ -30,6 +30,8 @@ public final class TextsBoundsTest {
     new Script("more than 700 bytes never come").due("text " + whole + " -> 700", "feed 0 0 0 0 0 -> -1",
         "count 12 -> 700", "sea 701 -> IAE", "sea 700 -> 0", "count 2 -> 2");
     new Script("n ends within a TOKEN").due("text rock 1 1; -> 20", "sea 3 -> 1", "fault -> 0");
+    new Script("n ends within a NUMBER").due("text goal 12; -> 20", "sea 6 -> 1", "fault -> 6");
+    new Script("n ends within a word of an EXPR").due("text rule hours go west; -> 20", "sea 9 -> 1", "fault -> 9");
     new Script("n ends behind a LINE").due("text rock 1 1;chalk -> 20", "sea 9 -> 0", "count 2 -> 1");
     new Script("n is 0").due("text chalk -> 20", "sea 0 -> 0", "fault -> -1");
   }
@@ -341,7 +343,9 @@ public final class TextsBoundsTest {
         "depth", "a", "z", "hours", "xy"};
     for (String word : words) {
       Script.fault("a word that is no VALUE begins an EXPR", 3, "rule |" + word + " go east;");
-      Script.fault("a word that is no VALUE behind '+'", 3, "rule 1 + |" + word + " go east;");
+      for (String ahead : new String[] {"1 + ", "1 - ", "1 * ", "1 / ", "1 < ", "1 = ", "1 or ", "1 and ", "not ", "(", "1 or (2 and "}) {
+        Script.fault("a word that is no VALUE behind " + ahead, 3, "rule " + ahead + "|" + word + " go east;");
+      }
     }
     Script.fault("'not' where a PART must stand", 3, "rule 1 * |not 1 go east;");
     Script.fault("'not' where a PART must stand", 3, "rule 1 = |not 1 go east;");
